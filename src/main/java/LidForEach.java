@@ -533,7 +533,7 @@ public final class LidForEach {
         }
 
         private boolean isCell(int row, int column) {
-            return contains(row) && 0 <= column && column < width;
+            return 0 <= row && row < rows && 0 <= column && column < width;
         }
 
         int at(int row, int column) {
@@ -668,7 +668,7 @@ public final class LidForEach {
             if (!lids.contains(lid) || !boxes.contains(box)) {
                 return BAD;
             }
-            if (!lidFits(lid, box) || boxUnder(lid) != NONE || boxes.at(box, LID_ON) != NONE) {
+            if (!rowFits(lids, lid, box) || boxUnder(lid) != NONE || boxes.at(box, LID_ON) != NONE) {
                 return NO;
             }
             boxes.change(box, LID_ON, lid);
@@ -753,10 +753,6 @@ public final class LidForEach {
             return NONE;
         }
 
-        private boolean lidFits(int lid, int box) {
-            return rowFits(lids, lid, box);
-        }
-
         // Lids and sorts of lids begin with the same three columns.
         private boolean rowFits(Table table, int row, int box) {
             int form = boxes.at(box, FORM);
@@ -786,7 +782,7 @@ public final class LidForEach {
         int lidsFor(int box) {
             int fitting = 0;
             for (int lid = 0; lid < lids.size(); lid++) {
-                if (lidFits(lid, box)) {
+                if (rowFits(lids, lid, box)) {
                     fitting |= 1 << lid;
                 }
             }
@@ -993,7 +989,7 @@ public final class LidForEach {
         // By Hall's marriage theorem a set can be lidded if no set within it lacks lids.
         private boolean areLiddedWithoutOne(int set) {
             for (int box = 0; box < BOX_ROOM; box++) {
-                if ((set >> box & 1) == 1 && !lidded[set & BOX_SETS - 1 ^ 1 << box]) {
+                if ((set >> box & 1) == 1 && !lidded[(set & BOX_SETS - 1) ^ (1 << box)]) {
                     return false;
                 }
             }
@@ -1064,9 +1060,11 @@ public final class LidForEach {
     /** The ways in which foods may be in boxes, by the hints. */
     private static final class Foods {
         private final int[] sizes = new int[BOX_ROOM];
+        // By food: the boxes in which it may be, and the foods that must be in lesser, smaller, greater boxes.
         private final int[] allowed = new int[BOX_ROOM];
         private final int[] inLesserBoxes = new int[BOX_ROOM];
         private final int[] inSmallerBoxes = new int[BOX_ROOM];
+        private final int[] inGreaterBoxes = new int[BOX_ROOM];
         private final int[] places = new int[BOX_ROOM];
         private final int[] waysByBoxAndFood = new int[BOX_ROOM * BOX_ROOM];
         private int boxes;
@@ -1079,13 +1077,14 @@ public final class LidForEach {
                 allowed[box] = BOX_SETS - 1;
                 inLesserBoxes[box] = 0;
                 inSmallerBoxes[box] = 0;
+                inGreaterBoxes[box] = 0;
             }
             Table hints = cupboard.hints;
             for (int i = 0; i < hints.size(); i++) {
                 heed(hints.at(i, FIRST), hints.at(i, SECOND), hints.at(i, THIRD));
             }
             Arrays.fill(waysByBoxAndFood, 0);
-            ways = waysFrom(0, 0);
+            ways = waysFrom(this, 0, 0);
         }
 
         private void heed(int sort, int food, int boxOrFood) {
@@ -1104,22 +1103,23 @@ public final class LidForEach {
                     break;
                 case 3:
                     inSmallerBoxes[boxOrFood] |= 1 << food;
+                    inGreaterBoxes[food] |= 1 << boxOrFood;
                     break;
                 default:
                     break;
             }
         }
 
-        private int waysFrom(int box, int placed) {
-            if (box >= boxes || box >= BOX_ROOM) {
+        private static int waysFrom(Foods foods, int box, int placed) {
+            if (box >= foods.boxes || box >= BOX_ROOM) {
                 return 1;
             }
             int sum = 0;
-            for (int food = 0; food < boxes; food++) {
-                if ((placed >> food & 1) == 0 && mayBeIn(box, food, placed)) {
-                    places[food] = box;
-                    int behind = waysFrom(box + 1, placed | 1 << food);
-                    waysByBoxAndFood[box * BOX_ROOM + food] += behind;
+            for (int food = 0; food < foods.boxes; food++) {
+                if ((placed >> food & 1) == 0 && foods.mayBeIn(box, food, placed)) {
+                    foods.places[food] = box;
+                    int behind = waysFrom(foods, box + 1, placed | 1 << food);
+                    foods.waysByBoxAndFood[box * BOX_ROOM + food] += behind;
                     sum += behind;
                 }
             }
@@ -1135,17 +1135,21 @@ public final class LidForEach {
         }
 
         private boolean agreesBySize(int box, int food, int placed) {
-            for (int other = 0; other < boxes; other++) {
-                if ((placed >> other & 1) == 1) {
-                    int bySize = sizes[places[other]] - sizes[box];
-                    boolean mustBeSmaller = (inSmallerBoxes[food] >> other & 1) == 1;
-                    boolean mustBeGreater = (inSmallerBoxes[other] >> food & 1) == 1;
-                    if (mustBeSmaller && bySize >= 0 || mustBeGreater && bySize <= 0) {
-                        return false;
-                    }
+            int smaller = inSmallerBoxes[food] & placed;
+            int greater = inGreaterBoxes[food] & placed;
+            for (int other = 0; other < boxes && (smaller | greater) >> other != 0; other++) {
+                int itsSize = sizeAt(places[other]);
+                boolean tooGreat = (smaller >> other & 1) == 1 && itsSize >= sizeAt(box);
+                boolean tooSmall = (greater >> other & 1) == 1 && itsSize <= sizeAt(box);
+                if (tooGreat || tooSmall) {
+                    return false;
                 }
             }
             return true;
+        }
+
+        private int sizeAt(int box) {
+            return within(box, 0, BOX_ROOM - 1) ? sizes[box] : 0;
         }
 
         int allWays() {

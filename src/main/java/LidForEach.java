@@ -20,6 +20,8 @@ public final class LidForEach {
     private static final int PLAIN = 0, WIDE = 1, SOFT = 2, WARPED = 3, SQUARE = 4, ALL = 5;
     private static final int SURE = 10, MUCH_FOR_WARPED = 9;
 
+    private static final int ABOVE_ALL = 1 << 30;
+
     // A purchase is one number, so that the least one is cheapest and then has fewest of the first sorts:
     // the price stands above three bits for each sort, the first sort's highest.
     private static final int SORT_BITS = 3, PRICE_SHIFT = SORT_BITS * SORT_ROOM, SORT_MASK = (1 << SORT_BITS) - 1;
@@ -1009,7 +1011,7 @@ public final class LidForEach {
 
         int leastFor(Cupboard cupboard, int amount) {
             int found = NONE;
-            int least = Integer.MAX_VALUE;
+            int least = ABOVE_ALL;
             for (int set = 0; set < sets && set < BOX_SETS; set++) {
                 int size = cupboard.sumOver(set, SIZE);
                 if (lidded[set] && size < least && cupboard.sumOver(set, HOLDS) >= amount) {
@@ -1173,7 +1175,7 @@ public final class LidForEach {
 
         int boxToOpen() {
             int found = NONE;
-            int fewest = Integer.MAX_VALUE;
+            int fewest = ABOVE_ALL;
             for (int box = 0; box < boxes; box++) {
                 int worst = worstBehind(box);
                 if (worst > 0 && worst < fewest) {

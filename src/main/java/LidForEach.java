@@ -499,7 +499,8 @@ public final class LidForEach {
     private void meanOfNuts(int n, int ways) {
         long above = 0;
         for (int free = 1; free <= n; free++) {
-            // The fitting bolt is the first, .., the last of the free ones equally often: 1 + .. + (free - 1) + (free - 1).
+            // Each free bolt fits equally often, and the last one takes no try more than the one ahead of it:
+            // 1 + 2 + .. + (free - 1) + (free - 1).
             above += (free - 1) * (free + 2) / 2 * (ways / free);
         }
         fraction.become(above, ways);

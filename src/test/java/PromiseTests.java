@@ -1,82 +1,5 @@
-import java.util.function.LongSupplier;
-
 /** For each promise: ordinary inputs, the edges that the document names, and wrong inputs. */
-public final class PromiseTests {
-    private static final int MAX = Integer.MAX_VALUE;
-    private static final int MIN = Integer.MIN_VALUE;
-    private static int wrong = 0;
-    private static int promise = 0;
-    private static int calls = 0;
-
-    private static void due(String call, long got, long want) {
-        calls++;
-        if (got != want) {
-            wrong++;
-            System.out.println("promise " + promise + ": " + call + " answered " + got + ", due is " + want);
-        }
-    }
-
-    /** A refused call answers as told, is counted in one row of STATUS alone, and changes nothing else. */
-    private static void refused(LidForEach x, int row, String call, LongSupplier it, long want) {
-        long before = x.digest();
-        int[] were = {x.status(0), x.status(1), x.status(2)};
-        due(call, it.getAsLong(), want);
-        for (int i = 0; i < 3; i++) {
-            due("status(" + i + ") behind " + call, x.status(i), were[i] + (i == row ? 1 : 0));
-        }
-        due("digest() behind " + call, x.digest(), before);
-    }
-
-    private static void bad(LidForEach x, String call, LongSupplier it) {
-        refused(x, 0, call, it, LidForEach.BAD);
-    }
-
-    private static void bad10(LidForEach x, String call, LongSupplier it) {
-        refused(x, 0, call, it, -10);
-    }
-
-    private static void no(LidForEach x, String call, LongSupplier it) {
-        refused(x, 1, call, it, LidForEach.NO);
-    }
-
-    private static void full(LidForEach x, String call, LongSupplier it) {
-        refused(x, 2, call, it, LidForEach.FULL);
-    }
-
-    /** An answer that is no refusal, of a call that changes nothing. */
-    private static void quiet(LidForEach x, String call, LongSupplier it, long want) {
-        refused(x, NOT_COUNTED, call, it, want);
-    }
-
-    private static final int NOT_COUNTED = 3;
-
-    private static void write(LidForEach x, String text) {
-        x.clear();
-        for (int i = 0; i < text.length(); i++) {
-            due("type(" + (int) text.charAt(i) + ")", x.type(text.charAt(i)), i + 1);
-        }
-    }
-
-    private static void reads(LidForEach x, String text, int want) {
-        write(x, text);
-        due("read() of '" + text + "'", x.read(), want);
-    }
-
-    private static LidForEach boxes(int... formSizeHolds) {
-        LidForEach x = new LidForEach();
-        for (int i = 0; i + 2 < formSizeHolds.length; i += 3) {
-            x.box(formSizeHolds[i], formSizeHolds[i + 1], formSizeHolds[i + 2]);
-        }
-        return x;
-    }
-
-    private static LidForEach withLids(LidForEach x, int... kindFormSize) {
-        for (int i = 0; i + 2 < kindFormSize.length; i += 3) {
-            x.lid(kindFormSize[i], kindFormSize[i + 1], kindFormSize[i + 2]);
-        }
-        return x;
-    }
-
+public final class PromiseTests extends Answers {
     private static void newObject() {
         LidForEach x = new LidForEach();
         for (int what = 0; what <= 7; what++) {
@@ -258,9 +181,9 @@ public final class PromiseTests {
 
     private static void typeAndClear() {
         LidForEach x = new LidForEach();
-        promise = 12;
+        atPromise(12);
         due("clear()", x.clear(), 0);
-        promise = 11;
+        atPromise(11);
         bad(x, "type(-1)", () -> x.type(-1));
         bad(x, "type(128)", () -> x.type(128));
         for (int i = 1; i <= 150; i++) {
@@ -269,11 +192,11 @@ public final class PromiseTests {
         full(x, "type(0)", () -> x.type(0));
         bad(x, "type(128) behind a full text", () -> x.type(128));
         due("count(7)", x.count(7), 150);
-        promise = 12;
+        atPromise(12);
         due("clear()", x.clear(), 150);
         due("count(7)", x.count(7), 0);
         due("clear()", x.clear(), 0);
-        promise = 11;
+        atPromise(11);
         due("type(127)", x.type(127), 1);
     }
 
@@ -450,23 +373,23 @@ public final class PromiseTests {
 
     private static void muchWorthSpare() {
         LidForEach x = withLids(boxes(0, 4, 10, 0, 3, 15, 2, 2, 7), 1, 0, 4, 0, 0, 4, 0, 1, 9);
-        promise = 18;
+        atPromise(18);
         due("much()", x.much(), 25);
-        promise = 19;
+        atPromise(19);
         due("worth(0)", x.worth(0), 15);
         due("worth(1)", x.worth(1), 10);
         due("worth(2)", x.worth(2), 0);
         for (int w : new int[] {-1, 3, 7, MAX, MIN}) {
             bad(x, "worth(" + w + ")", () -> x.worth(w));
         }
-        promise = 20;
+        atPromise(20);
         due("spare()", x.spare(), 4);
         x.lid(5, 2, 9);
         due("spare() with one for all", x.spare(), 4);
         x.lid(5, 2, 9);
         due("spare() with two for all", x.spare(), 31);
         due("spare() without lids", new LidForEach().spare(), 0);
-        promise = 18;
+        atPromise(18);
         due("much()", x.much(), 32);
         due("much() without boxes", new LidForEach().much(), 0);
         due("much() asks for what is held, not how many", withLids(boxes(0, 4, 1, 0, 3, 20), 1, 0, 4).much(), 20);
@@ -550,11 +473,6 @@ public final class PromiseTests {
         due("buy(0) for seven", seven.buy(0), 7);
     }
 
-    private static void fraction(LidForEach x, long above, long below) {
-        due("part(0)", x.part(0), above);
-        due("part(1)", x.part(1), below);
-    }
-
     private static void tries() {
         LidForEach x = new LidForEach();
         x.nuts(3, 2);
@@ -630,35 +548,35 @@ public final class PromiseTests {
 
     private static void tales() {
         LidForEach x = withLids(new LidForEach(), 0, 0, 1, 0, 0, 1);
-        promise = 28;
+        atPromise(28);
         due("wrong()", x.wrong(), -1);
-        promise = 27;
+        atPromise(27);
         due("has(0)", x.has(0), 0);
-        promise = 26;
+        atPromise(26);
         int[][] wrongOnes = {{-1, 0, 1}, {5, 0, 1}, {0, -1, 1}, {0, 2, 1}, {0, 0, -1}, {0, 0, 5}, {2, 0, 2}, {MAX, 0, MIN}};
         for (int[] w : wrongOnes) {
             bad(x, "a wrong tale", () -> x.lend(w[0], w[1], w[2]));
         }
         due("lend(0, 0, 4)", x.lend(0, 0, 4), 0);
         due("lend(4, 0, 1)", x.lend(4, 0, 1), 1);
-        promise = 27;
+        atPromise(27);
         due("has(0)", x.has(0), 1);
         due("has(1)", x.has(1), 0);
-        promise = 28;
+        atPromise(28);
         due("wrong()", x.wrong(), -1);
-        promise = 26;
+        atPromise(26);
         due("lend(2, 1, 3)", x.lend(2, 1, 3), 2);
         due("lend(3, 1, 4)", x.lend(3, 1, 4), 3);
         due("lend(1, 0, 0)", x.lend(1, 0, 0), 4);
-        promise = 28;
+        atPromise(28);
         due("wrong()", x.wrong(), 2);
-        promise = 27;
+        atPromise(27);
         due("has(1)", x.has(1), 0);
         due("has(0)", x.has(0), 0);
         for (int w : new int[] {-1, 2, MAX, MIN}) {
             bad(x, "has(" + w + ")", () -> x.has(w));
         }
-        promise = 26;
+        atPromise(26);
         for (int i = 5; i < 8; i++) {
             due("lend(0, 0, 1)", x.lend(0, 0, 1), i);
         }
@@ -799,13 +717,13 @@ public final class PromiseTests {
 
     private static void images() {
         LidForEach x = withLids(boxes(0, 4, 1), 0, 0, 4);
-        promise = 34;
+        atPromise(34);
         for (int w : new int[] {-1, 2, MAX, MIN}) {
             bad(x, "image(" + w + ")", () -> x.image(w));
         }
-        promise = 35;
+        atPromise(35);
         no(x, "from(0)", () -> x.from(0));
-        promise = 34;
+        atPromise(34);
         x.put(0, 0);
         x.grasp(0, 7);
         x.eye(0, 9);
@@ -814,7 +732,7 @@ public final class PromiseTests {
         x.hint(0, 0, 0);
         long kept = x.digest();
         due("image(0)", x.image(0), 1);
-        promise = 35;
+        atPromise(35);
         no(x, "from(1)", () -> x.from(1));
         for (int w : new int[] {-1, 2, MAX, MIN}) {
             bad(x, "from(" + w + ")", () -> x.from(w));
@@ -856,7 +774,7 @@ public final class PromiseTests {
     private static void status() {
         LidForEach x = new LidForEach();
         for (int w : new int[] {-1, 3, MAX, MIN}) {
-            refused(x, 0, "status(" + w + ")", () -> x.status(w), -1);
+            badAs(x, "status(" + w + ")", () -> x.status(w), -1);
         }
         due("status(0)", x.status(0), 4);
         x.on(0);
@@ -923,8 +841,12 @@ public final class PromiseTests {
         due("FULL", LidForEach.FULL, -4);
     }
 
+    private static void atPromise(int number) {
+        at("promise " + number);
+    }
+
     private static void at(int number, Runnable test) {
-        promise = number;
+        atPromise(number);
         test.run();
     }
 
@@ -963,9 +885,6 @@ public final class PromiseTests {
         at(36, PromiseTests::status);
         at(37, PromiseTests::count);
         at(38, PromiseTests::digest);
-        System.out.println(calls + " answers looked at, " + wrong + " not as due");
-        if (wrong != 0) {
-            System.exit(1);
-        }
+        end();
     }
 }

@@ -817,13 +817,7 @@ public final class PromiseTests extends Answers {
     }
 
     private static void digest() {
-        LidForEach x = withLids(boxes(0, 4, 1, 2, 9, 20), 0, 0, 4, 5, 2, 9);
-        x.put(1, 0);
-        x.grasp(1, 6);
-        x.eye(0, 3);
-        x.sort(1, 2, 3, 44);
-        x.lend(0, 1, 4);
-        x.hint(3, 1, 0);
+        LidForEach x = somethingOfAll();
         x.type(9);
         x.nuts(3, 2);
         long h = 857;

@@ -91,6 +91,18 @@ abstract class Answers {
         return x;
     }
 
+    /** Something of all that a cupboard has: two boxes, two lids, one of them on, and the rest once. */
+    static LidForEach somethingOfAll() {
+        LidForEach x = withLids(boxes(0, 4, 1, 2, 9, 20), 0, 0, 4, 5, 2, 9);
+        x.put(1, 0);
+        x.grasp(1, 6);
+        x.eye(0, 3);
+        x.sort(1, 2, 3, 44);
+        x.lend(0, 1, 4);
+        x.hint(3, 1, 0);
+        return x;
+    }
+
     static void write(LidForEach x, String text) {
         x.clear();
         for (int i = 0; i < text.length(); i++) {

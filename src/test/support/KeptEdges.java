@@ -18,21 +18,9 @@ final class KeptEdges extends Sentences {
         digest();
     }
 
-    /** Something of all that there is: two boxes, two lids, one on, and the rest once. */
-    private static LidForEach rich() {
-        LidForEach x = withLids(boxes(0, 4, 1, 2, 9, 20), 0, 0, 4, 5, 2, 9);
-        x.put(1, 0);
-        x.grasp(1, 6);
-        x.eye(0, 3);
-        x.sort(1, 2, 3, 44);
-        x.lend(0, 1, 4);
-        x.hint(3, 1, 0);
-        return x;
-    }
-
     private static void imageTerms() {
         inTerms("IMAGES 0, 1 keep all but them, THE TEXT, THE FRACTION and STATUS;", () -> {
-            LidForEach x = rich();
+            LidForEach x = somethingOfAll();
             long kept = x.digest();
             x.image(0);
             LidForEach other = new LidForEach();
@@ -82,7 +70,7 @@ final class KeptEdges extends Sentences {
             no(x, "undo() of none that were kept", () -> x.undo());
         });
         inTerms("it goes on from one.", () -> {
-            LidForEach x = rich();
+            LidForEach x = somethingOfAll();
             x.image(0);
             x.forget(0);
             x.from(0);
@@ -198,7 +186,7 @@ final class KeptEdges extends Sentences {
 
     private static void refusalTerms() {
         inTerms("Refused, changing nothing but STATUS, the first of:", () -> {
-            LidForEach x = rich();
+            LidForEach x = somethingOfAll();
             x.image(0);
             x.grasp(0, 2);
             write(x, "box 0 1 0;");
@@ -243,7 +231,7 @@ final class KeptEdges extends Sentences {
             no(none, "evening(60, 0) of none", () -> none.evening(60, 0));
         });
         inTerms("(where others are told they count as these).", () -> {
-            LidForEach x = rich();
+            LidForEach x = somethingOfAll();
             bad10(x, "on(2)", () -> x.on(2));
             bad10(x, "most(2)", () -> x.most(2));
             bad10(x, "soup(100, 0)", () -> x.soup(100, 0));
@@ -320,11 +308,11 @@ final class KeptEdges extends Sentences {
             due("from(1)", x.from(1), 1);
             due("from(0)", x.from(0), 1);
             due("how many boxes", x.count(0), 2);
-            LidForEach y = rich();
+            LidForEach y = somethingOfAll();
             quiet(y, "image(0) changes nothing that is counted", () -> y.image(0), 1);
         });
         inPromise(34, "BAD.", () -> {
-            LidForEach x = rich();
+            LidForEach x = somethingOfAll();
             badBeside(x, 0, 1, "image", x::image);
             no(x, "from(0)", () -> x.from(0));
             no(x, "from(1)", () -> x.from(1));
@@ -333,7 +321,7 @@ final class KeptEdges extends Sentences {
 
     private static void from() {
         inPromise(35, "It goes on from an IMAGE: 1.", () -> {
-            LidForEach x = rich();
+            LidForEach x = somethingOfAll();
             long kept = x.digest();
             x.image(1);
             change(x);
@@ -343,7 +331,7 @@ final class KeptEdges extends Sentences {
             due("digest()", x.digest(), kept);
         });
         inPromise(35, "BAD;", () -> {
-            LidForEach x = rich();
+            LidForEach x = somethingOfAll();
             badBeside(x, 0, 1, "from where none is kept", x::from);
             x.image(0);
             x.image(1);
@@ -351,13 +339,13 @@ final class KeptEdges extends Sentences {
             badBeside(x, 0, 1, "from", x::from);
         });
         inPromise(35, "NO: none was kept.", () -> {
-            LidForEach x = rich();
+            LidForEach x = somethingOfAll();
             no(x, "from(0)", () -> x.from(0));
             no(x, "from(1)", () -> x.from(1));
             x.image(0);
             no(x, "from(1) where the other is", () -> x.from(1));
             due("from(0)", x.from(0), 1);
-            LidForEach y = rich();
+            LidForEach y = somethingOfAll();
             y.image(1);
             no(y, "from(0) where the other is", () -> y.from(0));
             due("from(1)", y.from(1), 1);
@@ -424,7 +412,7 @@ final class KeptEdges extends Sentences {
             quiet(each, "count(2)", () -> each.count(2), 1);
         });
         inPromise(37, "BAD.", () -> {
-            LidForEach x = rich();
+            LidForEach x = somethingOfAll();
             badBeside(x, 0, 7, "count", x::count);
         });
     }
@@ -457,7 +445,8 @@ final class KeptEdges extends Sentences {
             due("digest()", x.digest(), mixed(2, 0, 0, 0, 0, 0, 0, 0, 2, 9, 20, 1, -1, 1, 3, 0, 7, -1, 0, 1));
             withLids(x, 0, 0, 1, 0, 1, 3);
             x.put(1, 1);
-            due("digest()", x.digest(), mixed(2, 2, 1, 0, 0, 0, 1, 0, 2, 9, 20, 1, -1, 1, 3, 0, 7, 1, 0, 0, 1, 5, 0, 1, 3, 5, 0, 1));
+            due("digest()", x.digest(), mixed(2, 2, 1, 0, 0, 0, 1, 0, 2, 9, 20, 1, -1, 1, 3, 0, 7, 1,
+                0, 0, 1, 5, 0, 1, 3, 5, 0, 1));
         });
         inPromise(38, "of LIDS KIND, FORM, SIZE, CHANCE;", () -> {
             LidForEach x = withLids(new LidForEach(), 5, 2, 9, 1, 0, 3);
@@ -486,7 +475,7 @@ final class KeptEdges extends Sentences {
             LidForEach x = new LidForEach();
             x.nuts(3, 2);
             due("digest()", x.digest(), mixed(0, 0, 0, 0, 0, 0, 0, 0, 8, 3));
-            LidForEach all = rich();
+            LidForEach all = somethingOfAll();
             all.type(9);
             all.nuts(3, 2);
             due("digest() of something of all", all.digest(), mixed(2, 2, 1, 1, 1, 1, 1, 1, 0, 4, 1, 1, 1, 2, 9, 20, 6, -1,

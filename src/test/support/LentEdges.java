@@ -422,7 +422,7 @@ final class LentEdges extends Sentences {
             due("how many boxes", x.count(0), 1);
             due("how many lids", x.count(1), 1);
             // what was told by them is not so any more
-            LidForEach told = withLids(boxes(0, 1, 0, 0, 2, 0, 0, 3, 0), 0, 0, 1);
+            LidForEach told = withLids(boxes(0, 2, 0, 0, 1, 0, 0, 3, 0), 0, 0, 1);
             told.lend(0, 0, 1);
             told.lend(0, 0, 1);
             told.sort(5, 0, 9, 1);

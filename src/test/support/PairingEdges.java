@@ -18,7 +18,8 @@ final class PairingEdges extends Sentences {
     }
 
     private static LidForEach rich() {
-        LidForEach x = withLids(boxes(0, 4, 10, 0, 3, 5, 2, 4, 8, 1, 4, 12, 2, 5, 20), 0, 0, 4, 1, 0, 4, 2, 2, 4, 3, 1, 4, 4, 2, 5);
+        LidForEach x = boxes(0, 4, 10, 0, 3, 5, 2, 4, 8, 1, 4, 12, 2, 5, 20);
+        withLids(x, 0, 0, 4, 1, 0, 4, 2, 2, 4, 3, 1, 4, 4, 2, 5);
         x.sort(5, 0, 9, 7);
         x.sort(0, 1, 4, 3);
         x.eye(3, 8);
@@ -97,11 +98,13 @@ final class PairingEdges extends Sentences {
             due("lacking(): four and one", x.lacking(), 127);
         });
         inTerms("of like ones of fewer BOXES,", () -> {
-            due("lacking(): without the one that has its own", withLids(boxes(0, 4, 0, 1, 4, 0, 0, 4, 0), 0, 0, 4, 0, 1, 4).lacking(), 5);
+            LidForEach own = withLids(boxes(0, 4, 0, 1, 4, 0, 0, 4, 0), 0, 0, 4, 0, 1, 4);
+            due("lacking(): without the one that has its own", own.lacking(), 5);
             due("lacking(): the bare one alone", withLids(boxes(1, 4, 0, 0, 4, 0), 0, 1, 4).lacking(), 2);
         });
         inTerms("then the least;", () -> {
-            due("lacking(): the least set", withLids(boxes(0, 4, 0, 0, 4, 0, 1, 4, 0, 1, 4, 0), 0, 0, 4, 0, 1, 4, 0, 1, 4).lacking(), 3);
+            LidForEach x = withLids(boxes(0, 4, 0, 0, 4, 0, 1, 4, 0, 1, 4, 0), 0, 0, 4, 0, 1, 4, 0, 1, 4);
+            due("lacking(): the least set", x.lacking(), 3);
             due("lacking(): of seven", withLids(likeBoxes(7, 0, 4, 0), 0, 0, 4).lacking(), 127);
         });
         inTerms("0: there is none.", () -> {
@@ -202,7 +205,8 @@ final class PairingEdges extends Sentences {
 
     private static void lacking() {
         inPromise(16, "SHORT, as bits.", () -> {
-            LidForEach x = withLids(boxes(1, 1, 0, 1, 1, 0, 0, 4, 0, 1, 1, 0, 1, 1, 0, 1, 1, 0, 0, 4, 0), 0, 0, 4, 5, 1, 1, 2, 1, 1, 1, 1, 1, 0, 1, 1, 4, 1, 1);
+            LidForEach x = boxes(1, 1, 0, 1, 1, 0, 0, 4, 0, 1, 1, 0, 1, 1, 0, 1, 1, 0, 0, 4, 0);
+            withLids(x, 0, 0, 4, 5, 1, 1, 2, 1, 1, 1, 1, 1, 0, 1, 1, 4, 1, 1);
             quiet(x, "lacking(): the third and the last", () -> x.lacking(), 68);
         });
     }

@@ -132,7 +132,8 @@ abstract class Sentences extends Answers {
 
     /** All that can be asked of a cupboard, but for what sets THE FRACTION. */
     static List<Integer> allAnswers(LidForEach x) {
-        List<Integer> all = new ArrayList<>(List.of(x.lacking(), x.much(), x.spare(), x.wrong(), x.labels(0, 0), x.labels(0, 2)));
+        List<Integer> all = new ArrayList<>();
+        all.addAll(List.of(x.lacking(), x.much(), x.spare(), x.wrong(), x.labels(0, 0), x.labels(0, 2)));
         all.addAll(List.of(x.most(-1), x.piles(-1), x.shelf(-1), x.buy(-1), x.nuts(4, 0), x.nuts(4, 1)));
         for (int box = 0; box < x.count(0); box++) {
             all.addAll(List.of(x.on(box), x.fits(box), x.most(box), x.piles(box), x.shelf(box), x.labels(box, 1)));

@@ -15,32 +15,26 @@ final class TextEdges extends Sentences {
         read();
     }
 
-    /** The text has a fault there: that is told, it is no refusal, and nothing changes. */
     private static void faultAt(int place, String text) {
-        LidForEach x = rich();
-        write(x, text);
-        quiet(x, "read() of '" + text + "'", () -> x.read(), -10 - place);
-        due("undo() behind a fault", x.undo(), 1);
-        due("from(1) behind a fault", x.from(1), 1);
+        readsNothing(text, -10 - place);
     }
 
     private static void refusedAt(int item, String text) {
+        readsNothing(text, -1000 - item);
+    }
+
+    /** What is wrong is told, it is no refusal, and nothing changes. */
+    private static void readsNothing(String text, int want) {
         LidForEach x = rich();
         write(x, text);
-        quiet(x, "read() of '" + text + "'", () -> x.read(), -1000 - item);
-        due("undo() behind a refused item", x.undo(), 1);
-        due("from(1) behind a refused item", x.from(1), 1);
+        quiet(x, "read() of '" + text + "'", () -> x.read(), want);
+        due("undo() behind '" + text + "'", x.undo(), 1);
+        due("from(1) behind '" + text + "'", x.from(1), 1);
     }
 
     private static LidForEach rich() {
-        LidForEach x = withLids(boxes(0, 4, 1, 1, 3, 2), 0, 0, 4, 1, 1, 4);
+        LidForEach x = somethingOfAll();
         x.image(1);
-        x.put(1, 1);
-        x.grasp(1, 7);
-        x.eye(1, 9);
-        x.sort(1, 2, 3, 4);
-        x.lend(0, 1, 4);
-        x.hint(3, 1, 0);
         x.nuts(3, 2);
         return x;
     }
@@ -214,8 +208,9 @@ final class TextEdges extends Sentences {
 
     private static void endsTooEarly() {
         inTerms("the TEXT's length, if it ends too early", () -> {
-            for (String text : new String[] {"box", "box 0", "box 0 ", "box 0 1", "box 0 1 2", "box 0 1 2  ", "lid", "on", "on 0",
-                "on 0 0", "grasp", "grasp 0 1", "sort", "sort 0 0 1", "sort 0 0 1 1", "  on  ", "box 0 1 2;on", "box 9 9 99;on 0 "}) {
+            for (String text : new String[] {"box", "box 0", "box 0 ", "box 0 1", "box 0 1 2", "box 0 1 2  ", "lid", "on",
+                "on 0", "on 0 0", "grasp", "grasp 0 1", "sort", "sort 0 0 1", "sort 0 0 1 1", "  on  ", "box 0 1 2;on",
+                "box 9 9 99;on 0 "}) {
                 faultAt(text.length(), text);
             }
             faultAt(150, "box 0 1 0;".repeat(14) + "box 0 1 0 ");
